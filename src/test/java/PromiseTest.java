@@ -1,56 +1,6 @@
 /** For each promise: ordinary inputs, the edges that the document names, wrong inputs. */
-public final class PromiseTest {
-    private static final int MIN = Integer.MIN_VALUE;
-    private static final int MAX = Integer.MAX_VALUE;
-    private static final int[] NO_REGISTER = {-1, 16, 17, MIN, MAX, -16};
-    private static final int[] NO_VARIABLE = {-1, 10, 11, 32, MIN, MAX};
-    private static final int[] NO_NUMBER = {-1, 1024, 1025, MIN, MAX, -1024};
-    private static final int[] NO_KIND = {-1, 5, 6, MIN, MAX};
-
+public final class PromiseTest extends Samples {
     private static final Check CHECK = new Check();
-
-    private static boolean bit(int s, int v) {
-        return (s >> v & 1) != 0;
-    }
-
-    private static int with(int s, int v, boolean value) {
-        return value ? s | 1 << v : s & ~(1 << v);
-    }
-
-    private static int changed(int s, int v, int w) {
-        return with(with(s, v, bit(s, w)), w, bit(s, v));
-    }
-
-    /** Register 0: a function that hangs on all variables, and on no two of them alike. */
-    private static boolean mixed(int s) {
-        boolean x = bit(s, 0) && bit(s, 7) != bit(s, 3);
-        boolean y = bit(s, 1) ? bit(s, 9) || bit(s, 2) : bit(s, 5) && !bit(s, 8);
-        return (x != y) || bit(s, 4) && bit(s, 6);
-    }
-
-    private static void makeMixed(DiagramBench b) {
-        for (int v = 0; v < 10; v++) {
-            b.variable(v, v);
-        }
-        b.join(10, 2, 7, 3);
-        b.join(10, 0, 0, 10);
-        b.join(11, 1, 9, 2);
-        b.join(12, 4, 8, 0);
-        b.join(12, 0, 5, 12);
-        b.choose(11, 1, 11, 12);
-        b.join(10, 2, 10, 11);
-        b.join(11, 0, 4, 6);
-        b.join(0, 1, 10, 11);
-    }
-
-    /** Register 3 is parity of all variables, register 4 variable 9. */
-    private static void makeParity(DiagramBench b) {
-        b.variable(3, 0);
-        for (int v = 1; v < 10; v++) {
-            b.variable(4, v);
-            b.join(3, 2, 3, 4);
-        }
-    }
 
     private static void newObject() {
         DiagramBench b = new DiagramBench();
@@ -180,13 +130,6 @@ public final class PromiseTest {
         for (int bad : NO_VARIABLE) {
             CHECK.illegal("put v " + bad, PromiseTest::makeMixed, x -> x.put(0, 1, bad, 2));
         }
-    }
-
-    /** Register 10 behind makeMixed. */
-    private static boolean inner(int s) {
-        boolean x = bit(s, 0) && bit(s, 7) != bit(s, 3);
-        boolean y = bit(s, 1) ? bit(s, 9) || bit(s, 2) : bit(s, 5) && !bit(s, 8);
-        return x != y;
     }
 
     private static boolean boundMixed(int s, int set, boolean every) {
@@ -344,7 +287,7 @@ public final class PromiseTest {
 
     private static void parts() {
         DiagramBench b = new DiagramBench();
-        makeParity(b);
+        makeParity(b, 3, 4);
         CHECK.equal("parts of parity", b.parts(3), 19);
         CHECK.equal("parts of a variable", b.parts(4), 1);
         CHECK.equal("parts of false", b.parts(0), 0);
@@ -366,7 +309,7 @@ public final class PromiseTest {
 
     private static void together() {
         DiagramBench b = new DiagramBench();
-        makeParity(b);
+        makeParity(b, 3, 4);
         CHECK.equal("together: variable 9 is a part of parity", b.together(3, 5), 19);
         CHECK.equal("together: just one register", b.together(3, 4), 19);
         CHECK.equal("together: b is left out", b.together(2, 3), 0);
