@@ -4,6 +4,7 @@ import java.lang.reflect.Method;
 import java.lang.reflect.Modifier;
 import java.util.Arrays;
 import java.util.HashSet;
+import java.util.NoSuchElementException;
 import java.util.Set;
 import java.util.TreeSet;
 
@@ -35,6 +36,16 @@ public final class FaceTest {
         return text.append(")").toString();
     }
 
+    /** Each call tells the exceptions that the document writes behind it. */
+    private static void declared(Check check, Method m) {
+        Set<Class<?>> due = new HashSet<>(Set.of(IllegalArgumentException.class));
+        if (m.getName().equals("first")) {
+            due.add(NoSuchElementException.class);
+        }
+        Set<Class<?>> told = new HashSet<>(Arrays.asList(m.getExceptionTypes()));
+        check.isTrue(m.getName() + " tells " + told, told.equals(due));
+    }
+
     public static void main(String[] args) {
         Check check = new Check();
         Class<?> face = DiagramBench.class;
@@ -45,6 +56,7 @@ public final class FaceTest {
         for (Method m : face.getDeclaredMethods()) {
             if (!Modifier.isPrivate(m.getModifiers())) {
                 check.isTrue(m + " is public and of objects", m.getModifiers() == Modifier.PUBLIC);
+                declared(check, m);
                 open.add(written(m));
                 openNames.add(m.getName());
             }
